@@ -21,8 +21,8 @@ public final class HalfFair {
     private static final int MISSING = -2;
 
     private final Tape tape = new Tape();
-    private final FairReader fairReader = new FairReader(tape);
-    private final RuleReader ruleReader = new RuleReader(tape);
+    private final FairReader fairReader = new FairReader();
+    private final RuleReader ruleReader = new RuleReader();
     private final Rule[] rules = new Rule[MOST_RULES];
     private int ruleCount;
     private Told told = new Told();
@@ -42,7 +42,6 @@ public final class HalfFair {
         for (int i = 0; i < MOST_UNDONE; i++) {
             past[i] = new Scene();
         }
-        pairs.startOn(told);
     }
 
     public int feed(int a, int b, int c, int d, int e) {
@@ -66,7 +65,7 @@ public final class HalfFair {
     }
 
     public int fair() {
-        Told read = fairReader.readFair();
+        Told read = fairReader.readFair(tape);
         if (tape.fault != 0) {
             return MISSING - tape.fault;
         }
@@ -83,7 +82,7 @@ public final class HalfFair {
         if (ruleCount >= MOST_RULES) {
             return NONE;
         }
-        Rule read = ruleReader.readRule();
+        Rule read = ruleReader.readRule(tape);
         if (tape.fault != 0) {
             return MISSING - tape.fault;
         }
@@ -755,7 +754,8 @@ public final class HalfFair {
         }
 
         private int bestOf(int set, int depth) {
-            if (set == 0 || depth > MOST_HALVES) {
+            // without a FAIR there is nothing but the empty set
+            if (set == 0 || told == null || depth > MOST_HALVES) {
                 return 0;
             }
             if (known[set] != 0) {
@@ -1165,16 +1165,13 @@ public final class HalfFair {
         private static final int HEAR = 7;
         private static final int MOST_CLAUSES = 40;
 
-        private final Tape tape;
+        private Tape tape;
         private Told told;
         // bits of the kinds of CLAUSES told so far
         private int kindsTold;
 
-        FairReader(Tape tape) {
-            this.tape = tape;
-        }
-
-        Told readFair() {
+        Told readFair(Tape text) {
+            tape = text;
             told = new Told();
             kindsTold = 0;
             tape.rewind();
@@ -1329,16 +1326,13 @@ public final class HalfFair {
             "buyer purse spot hour left has half shape side price fits nearly known ";
         private static final int DEEPEST = 10;
 
-        private final Tape tape;
+        private Tape tape;
         private final int[] code = new int[MOST_BYTES];
         private int length;
         private int parts;
 
-        RuleReader(Tape tape) {
-            this.tape = tape;
-        }
-
-        Rule readRule() {
+        Rule readRule(Tape text) {
+            tape = text;
             Rule read = new Rule();
             length = 0;
             parts = 0;

@@ -43,6 +43,12 @@ public final class FaultsTest {
         badFair("stalls 2 0;;near 1", 11, 0);
         badFair("stallss 2 0", 0, 0);
         badFair("stall 2 0", 0, 0);
+        badFair("stallsz 2 0", 0, 0);
+        badFair("stallsa 2 0", 0, 0);
+        badFair("stalls{2 0", 6, 0);
+        badFair("stalls`2 0", 6, 0);
+        badFair("stalls /2 0", 7, 0);
+        badFair("stalls :2 0", 7, 0);
         badFair("Stalls 2 0", 0, 0);
         badFair(" x", 1, 0);
         badFair("stalls 2 -1", 9, 0);

@@ -166,6 +166,11 @@ public final class PromisesTest {
         due("P6 price ahead of dusk", f.half(0, 2), 4);
         f.go(0, 0);
         due("P6 price at dusk", f.half(0, 2), 1);
+        HalfFair plain = Check.open("stalls 2 0;half 0 1 0 9;buyer 0 0");
+        for (int hour = 1; hour <= 12; hour++) {
+            plain.go(0, 0);
+            due("P6 dusk without: 12 and 5", plain.half(0, 2), hour < 12 ? 9 : 5);
+        }
     }
 
     private static void fits() {
@@ -276,6 +281,7 @@ public final class PromisesTest {
         due("P12 they themselves, not the club", f.shout(1, 10), 1);
         due("P12 FORGED by its SHAPE", f.shout(0, 49), 1);
         due("P12 HOUR stays", f.count(4), 0);
+        due("P12 SHAPE 99", f.shout(0, 99), 0);
         HalfFair poor = Check.open("stalls 2 0;half 1 5 0 1;buyer 1 0;hear 0");
         due("P12 hear 0", poor.shout(0, 5), 0);
         due("P12 without PURSE", poor.shout(0, 5), -1);
@@ -446,6 +452,11 @@ public final class PromisesTest {
         dear.run(0, 1);
         due("P16 what they can pay", dear.buyer(0, 2), 2);
         due("P16 GO backwards", dear.buyer(0, 1), 1);
+        HalfFair all = Check.open("stalls 2 0" + ";half 1 5 0 2".repeat(12) + ";buyer 99 1");
+        Check.rule(all, "buy 1");
+        all.run(0, 1);
+        due("P16 all twelve in one HOUR", all.buyer(0, 2), 4095);
+        due("P16 PURSE", all.buyer(0, 0), 75);
         HalfFair words = Check.open("stalls 2 0;buyer 0 0");
         Check.rule(words, "go 1 if half + shape + side + price + fits + nearly + known = 0");
         words.run(0, 1);
@@ -603,6 +614,11 @@ public final class PromisesTest {
         f.buy(1, 4);
         due("P22 alike: the least", f.cry(0, 0), 10);
         due("P22 how many", f.cry(0, 1), 1);
+        HalfFair zero = Check.open("stalls 2 0;half 0 0 0 1;half 0 7 0 1;half 1 0 1 1;half 1 9 1 1;buyer 9 0");
+        zero.buy(0, 0);
+        zero.buy(0, 1);
+        due("P22 SHAPE 0", zero.cry(0, 0), 0);
+        due("P22 how many", zero.cry(0, 1), 1);
         due("P22 what 2", f.cry(0, 2), -1);
         due("P22 what -1", f.cry(0, -1), -1);
         due("P22 no BUYER", f.cry(2, 0), -1);
