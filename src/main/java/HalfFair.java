@@ -761,8 +761,8 @@ public final class HalfFair {
             if (known[set] != 0) {
                 return known[set];
             }
-            int first = Integer.numberOfTrailingZeros(set);
             int rest = set & set - 1;
+            int first = Integer.bitCount((set ^ rest) - 1);
             int best = ALONE_WORTH + bestOf(rest, depth + 1);
             int partners = rest & (told.fitting[first] | told.nearly[first]);
             for (int h = first + 1; h < MOST_HALVES; h++) {
@@ -859,7 +859,10 @@ public final class HalfFair {
         }
 
         int firstGoing() {
-            return Integer.numberOfTrailingZeros(bestWays) - 1;
+            if ((bestWays & 1) != 0) {
+                return -1;
+            }
+            return (bestWays & 2) != 0 ? 0 : 1;
         }
 
         private void spread(int start, int hours) {
