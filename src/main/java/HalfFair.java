@@ -1051,7 +1051,6 @@ public final class HalfFair {
         int length;
         int place;
         int fault;
-        private int wordStart;
 
         void append(int number) {
             for (int shift = 24; shift >= 0 && length < MOST_BYTES; shift -= 8) {
@@ -1108,32 +1107,27 @@ public final class HalfFair {
         /** Takes a word: which of the list (each of its words ends in a blank); NONE, and the place stays. */
         int takeWord(String list) {
             skipBlanks();
-            wordStart = place;
+            int wordStart = place;
             while (place < length && bytes[place] >= 'a' && bytes[place] <= 'z') {
                 place++;
             }
             int index = 0;
-            int from = 0;
+            int at = wordStart;
+            boolean alike = true;
             for (int i = 0; i < list.length(); i++) {
-                if (list.charAt(i) == ' ') {
-                    if (i - from == place - wordStart && isWord(list, from)) {
-                        return index;
-                    }
+                if (list.charAt(i) != ' ') {
+                    alike = alike && at < place && bytes[at] == list.charAt(i);
+                    at++;
+                } else if (alike && at == place) {
+                    return index;
+                } else {
                     index++;
-                    from = i + 1;
+                    at = wordStart;
+                    alike = true;
                 }
             }
             place = wordStart;
             return NONE;
-        }
-
-        private boolean isWord(String list, int from) {
-            for (int i = wordStart; i < place; i++) {
-                if (list.charAt(from + i - wordStart) != bytes[i]) {
-                    return false;
-                }
-            }
-            return true;
         }
 
         /** A NUMBER from least to most; behind a fault what it answers means nothing. */
@@ -1389,20 +1383,31 @@ public final class HalfFair {
             }
         }
 
+        /** An or waits till the PART behind it has ended, as + and - do in a SUM. */
         private void readTest(int depth) {
-            readPart(depth);
-            for (int i = 0; i < MOST_BYTES && tape.isSound() && tape.takeWord("or ") == 0; i++) {
-                readPart(depth);
+            readFact(depth);
+            boolean waiting = false;
+            int word = takeJoint();
+            for (int i = 0; i < MOST_BYTES && word != NONE; i++) {
+                if (word == 0) {
+                    readFact(depth);
+                    emit(Rule.AND);
+                } else {
+                    if (waiting) {
+                        emit(Rule.OR);
+                    }
+                    waiting = true;
+                    readFact(depth);
+                }
+                word = takeJoint();
+            }
+            if (waiting) {
                 emit(Rule.OR);
             }
         }
 
-        private void readPart(int depth) {
-            readFact(depth);
-            for (int i = 0; i < MOST_BYTES && tape.isSound() && tape.takeWord("and ") == 0; i++) {
-                readFact(depth);
-                emit(Rule.AND);
-            }
+        private int takeJoint() {
+            return tape.isSound() ? tape.takeWord("and or ") : NONE;
         }
 
         private void readFact(int depth) {
@@ -1411,7 +1416,12 @@ public final class HalfFair {
             boolean opens = tape.take('[');
             boolean not = !opens && tape.takeWord("not ") == 0;
             if (!opens && !not) {
-                readComparison();
+                readSum();
+                int sign = takeComparison();
+                if (sign != NONE) {
+                    readSum();
+                    emit(sign);
+                }
             } else if (depth >= DEEPEST) {
                 tape.fail(start, 2);
             } else if (not) {
@@ -1430,21 +1440,20 @@ public final class HalfFair {
             }
         }
 
-        private void readComparison() {
-            readSum();
+        /** The SIGN of a FACT, which is counted; NONE behind a fault. */
+        private int takeComparison() {
             if (!tape.isSound()) {
-                return;
+                return NONE;
             }
             tape.skipBlanks();
             int start = tape.place;
             int sign = takeSign();
             if (sign == NONE) {
                 tape.fail(start, 0);
-                return;
+            } else {
+                countPart(start);
             }
-            countPart(start);
-            readSum();
-            emit(sign);
+            return tape.isSound() ? sign : NONE;
         }
 
         private int takeSign() {
