@@ -83,10 +83,10 @@ public final class HalfFair {
             return NONE;
         }
         Rule read = ruleReader.readRule(tape);
+        tape.length = 0;
         if (tape.fault != 0) {
             return MISSING - tape.fault;
         }
-        tape.length = 0;
         rules[ruleCount] = read;
         ruleCount++;
         return ruleCount - 1;
@@ -455,7 +455,7 @@ public final class HalfFair {
     }
 
     private boolean isSet(int set) {
-        return set >= 0 && set < 1 << told.halves;
+        return isFair() && set >= 0 && set < 1 << told.halves;
     }
 
     private boolean isTheirs(int buyer, int half) {

@@ -423,10 +423,11 @@ final class Model {
         if (rules.size() == 6) return -1;
         try {
             rules.add(readRule());
-            tape.setLength(0);
             return rules.size() - 1;
         } catch (Fault fault) {
             return -2 - fault.number;
+        } finally {
+            tape.setLength(0);
         }
     }
 
@@ -603,7 +604,7 @@ final class Model {
     // ---- what is asked
 
     int worth(int set) {
-        return set < 0 || set >= 1 << s.halves.size() ? -1 : s.worth(listOf(set));
+        return s.stalls == 0 || set < 0 || set >= 1 << s.halves.size() ? -1 : s.worth(listOf(set));
     }
 
     int with(int set, int h) {

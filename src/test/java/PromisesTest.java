@@ -64,7 +64,7 @@ public final class PromisesTest {
         due("P1 giveUp", f.giveUp(0, 0), -1);
         due("P1 undo", f.undo(), -1);
         due("P1 run", f.run(0, 1), -1);
-        due("P1 worth of no HALVES", f.worth(0), 0);
+        due("P1 worth of no HALVES", f.worth(0), -1);
         due("P1 worth", f.worth(1), -1);
         due("P1 with", f.with(0, 0), -2);
         due("P1 walk", f.walk(0, 0), -3);
@@ -135,7 +135,8 @@ public final class PromisesTest {
         HalfFair f = new HalfFair();
         due("P5 fault", Check.rule(f, "buy"), Check.fault(3, 0));
         due("P5 none comes", f.count(3), 0);
-        due("P5 TAPE stays", f.count(10), 3);
+        due("P5 TAPE empty behind a FAULT", f.count(10), 0);
+        due("P5 a FAULT at the end of the empty TAPE", f.rule(), Check.fault(0, 0));
         for (int i = 0; i < 6; i++) {
             due("P5 rule", Check.rule(f, "buy " + i), i);
             due("P5 TAPE empty", f.count(10), 0);
@@ -143,6 +144,7 @@ public final class PromisesTest {
         due("P5 a seventh", Check.rule(f, "buy 7"), -1);
         due("P5 nothing happens", f.count(10), 5);
         due("P5 a seventh with a FAULT", Check.rule(f, "buy"), -1);
+        due("P5 nothing happens", f.count(10), 3);
         due("P5 RULES stay in a new FAIR", Check.fair(f, FAIR), 5);
         due("P5 RULES", f.count(3), 6);
     }
@@ -476,6 +478,7 @@ public final class PromisesTest {
         due("P17 no such HALF", f.worth(32), -1);
         due("P17 below 0", f.worth(-1), -1);
         due("P17 below 0", f.worth(Integer.MIN_VALUE), -1);
+        due("P17 a FAIR without HALVES", Check.open("stalls 2 0").worth(0), 0);
         due("P18 with", f.with(23, 0), 1);
         due("P18 with", f.with(23, 4), 2);
         due("P18 alone", f.with(7, 2), -1);
@@ -820,6 +823,7 @@ public final class PromisesTest {
         due("P30 to no FAIR", f.count(0), 0);
         due("P30 to no FAIR", f.count(5), -1);
         due("P30 to no FAIR", f.forgers(0), -1);
+        due("P30 to no FAIR", f.worth(0), -1);
         due("P30 and on", f.back(0), 1);
         f.image(2);
         f.go(0, 0);
