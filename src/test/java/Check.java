@@ -2,12 +2,28 @@
 final class Check {
     private int wrong;
     private int asked;
+    private String said = "";
+
+    /** The sentence of DOC.md that the answers behind it hold against the class. */
+    void says(String sentence) {
+        said = sentence + " | ";
+    }
 
     void due(String call, long got, long want) {
         asked++;
         if (got != want) {
             wrong++;
-            System.out.println(call + " answered " + got + ", due is " + want);
+            System.out.println(said + call + " answered " + got + ", due is " + want);
+        }
+    }
+
+    /** For a call behind which nothing may have changed. */
+    void stays(String call, HalfFair fair, String before) {
+        asked++;
+        String now = state(fair);
+        if (!now.equals(before)) {
+            wrong++;
+            System.out.println(said + call + " left\n  " + now + "\nwhere there was\n  " + before);
         }
     }
 
@@ -58,6 +74,27 @@ final class Check {
             throw new IllegalStateException(text + " answered " + answer);
         }
         return fair;
+    }
+
+    /** All that can be asked of where things are, in one line. */
+    static String state(HalfFair fair) {
+        StringBuilder text = new StringBuilder("counts");
+        for (int what = 0; what <= 10; what++) {
+            text.append(' ').append(fair.count(what));
+        }
+        for (int h = 0; h < fair.count(1); h++) {
+            text.append("; half ").append(h);
+            for (int what = 0; what <= 4; what++) {
+                text.append(' ').append(fair.half(h, what));
+            }
+        }
+        for (int b = 0; b < fair.count(2); b++) {
+            text.append("; buyer ").append(b);
+            for (int what = 0; what <= 5; what++) {
+                text.append(' ').append(fair.buyer(b, what));
+            }
+        }
+        return text.append("; spot ").append(fair.spot(0, 0)).append("; forgers ").append(fair.forgers(0)).toString();
     }
 
     /** What fair() and rule() answer for a FAULT of this kind at this place. */
