@@ -22,6 +22,7 @@ public final class ActBoundsTest {
         seesAtFirst();
         seesBehindEachHour();
         seesSwapped();
+        seesOnlyThen();
         sawByClub();
         going();
         goingRound();
@@ -377,6 +378,43 @@ public final class ActBoundsTest {
         f.undo();
         due("UNDONE", f.buyer(0, 3), 3);
         due("UNDONE", f.buyer(1, 3), 12);
+    }
+
+    private static void seesOnlyThen() {
+        CHECK.says("SEES .. at first and behind each HOUR; also those that are SWAPPED to them: by no other ACT");
+        HalfFair f = Check.open("stalls 3 0;half 0 1 0 9;half 0 2 0 1;half 1 3 0 1;half 0 1 1 1;buyer 30 0;buyer 30 1");
+        f.buy(0, 0);
+        f.buy(0, 1);
+        f.buy(1, 2);
+        f.go(0, 1);
+        due("HALF 0 comes to where BUYER 1 is", f.giveUp(0, 0), 24);
+        due("GIVEN UP beside them", f.buyer(1, 3), 4);
+        due("SHOUT another SHAPE", f.shout(1, 50), 0);
+        due("SHOUTED another SHAPE", f.buyer(1, 3), 4);
+        CHECK.due("SWAP another one", f.swap(0, 1, 1, 2), true);
+        due("what is SWAPPED, not what is at the STALL", f.buyer(1, 3), 6);
+        due("what is SWAPPED, the other way", f.buyer(0, 3), 15);
+        due("BUY what they did not SEE", f.buy(1, 0), 19);
+        due("BOUGHT, but not SEEN", f.buyer(1, 3), 6);
+        due("GIVE UP what they did not SEE", f.giveUp(1, 0), 23);
+        due("GIVEN UP, but not SEEN", f.buyer(1, 3), 6);
+        due("0 and 3 are unseen, one of which FITS 3", f.chance(1, 3, 1), 2);
+        f.image(0);
+        f.back(0);
+        due("gone back to, not SEEN", f.buyer(1, 3), 6);
+        f.buy(0, 0);
+        f.undo();
+        due("UNDONE, not SEEN", f.buyer(1, 3), 6);
+        f.go(0, 0);
+        due("behind the HOUR", f.buyer(1, 3), 7);
+        HalfFair g = Check.open("stalls 3 0;half 1 1 0 9;half 2 1 1 1;buyer 30 0;buyer 30 1");
+        g.buy(1, 0);
+        g.go(1, -1);
+        g.giveUp(1, 0);
+        Check.rule(g, "buy 1;go 0 - 1");
+        due("BY A RULE", g.run(0, 1), 2);
+        due("BOUGHT BY A RULE", g.buyer(0, 2), 1);
+        due("BOUGHT, not SEEN; behind the HOUR what is there", g.buyer(0, 3), 2);
     }
 
     private static void sawByClub() {

@@ -33,6 +33,7 @@ public final class RuleBoundsTest {
         fairsWithoutThese();
         fairsTillDusk();
         fairsChangeNothing();
+        seenBehindTheHour();
         CHECK.finish();
     }
 
@@ -567,5 +568,26 @@ public final class RuleBoundsTest {
         due("asked again", f.fairs(0, 10, 50, 0), bought);
         due("asked again", f.fairs(0, 10, 50, 1), worth);
         due("the last ACT can be UNDONE still", f.undo(), 1);
+    }
+
+    private static void seenBehindTheHour() {
+        CHECK.says("SEES .. behind each HOUR: BY A RULE what came to a STALL by now is known an HOUR later");
+        String text = "stalls 2 0;half 1 5 0 1;half 0 5 1 9;buyer 9 0;buyer 9 1;dusk ";
+        for (int dusk = 2; dusk <= 3; dusk++) {
+            HalfFair f = Check.open(text + dusk + " 1");
+            Check.rule(f, "buy known if half = 1");
+            f.buy(1, 0);
+            f.go(1, -1);
+            f.giveUp(1, 0);
+            due("FAIRS, dusk at " + dusk, f.fairs(0, 1, 0, 0), dusk - 2);
+            f.run(0, 1);
+            due("BOUGHT, dusk at " + dusk, f.buyer(0, 2), 0);
+            f.run(0, 1);
+            due("BOUGHT an HOUR later", f.buyer(0, 2), 2);
+        }
+        HalfFair f = Check.open("stalls 2 0;half 1 5 0 1;half 0 5 1 9;buyer 10 0;dusk 3 1");
+        Check.rule(f, "buy 1 if half = 0 and purse < 9;buy known if half = 1");
+        due("BRING", f.bring(0, 0, 0), 0);
+        due("BRING, HOUR", f.bring(0, 0, 1), 1);
     }
 }
